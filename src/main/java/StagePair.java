@@ -146,8 +146,9 @@ public final class StagePair {
         if (n < 1 || n > Lengths.MOST || n > things.size) {
             return RANGE;
         }
+        lengths.learnRules(cues);
         lengths.weigh(things.likes, n);
-        int least = lengths.leastCost(n, cues);
+        int least = lengths.leastCost(n);
         if (least >= 0) {
             lengths.keepLengths(n);
         }
@@ -306,7 +307,8 @@ public final class StagePair {
         if (n < 2 || n > Lengths.MOST || n > things.size) {
             return RANGE;
         }
-        return lengths.part(n, things.likes, cues);
+        lengths.learnRules(cues);
+        return lengths.part(n, things.likes);
     }
 
     public int kind(int t) {
@@ -385,8 +387,9 @@ public final class StagePair {
             }
             now += shows.tallies[t] * things.rowSizes[t];
         }
+        lengths.learnRules(cues);
         lengths.weigh(shows.tallies, n);
-        int least = lengths.leastCost(n, cues);
+        int least = lengths.leastCost(n);
         return least < 0 ? NONE : now - least;
     }
 
@@ -1144,6 +1147,12 @@ public final class StagePair {
             return end;
         }
 
+        void setLike(Shapes other) {
+            int size = Math.min(other.starts[MOST_ROWS + 1], codes.length);
+            System.arraycopy(other.codes, 0, codes, 0, size);
+            System.arraycopy(other.starts, 0, starts, 0, starts.length);
+        }
+
         /** Becomes what a cue can begin: nothing, its own row's end, or what its followers begin. */
         void setTree(Shapes below) {
             int size = 0;
@@ -1204,8 +1213,7 @@ public final class StagePair {
         }
 
         /** The least cost of rows for the n weights, or NONE; `best` has how long each is. */
-        int leastCost(int n, Cues cues) {
-            findShapes(cues);
+        int leastCost(int n) {
             sortOrder(n);
             int least = NONE;
             for (int i = sum.starts[n]; i < sum.starts[n + 1]; i++) {
@@ -1258,7 +1266,8 @@ public final class StagePair {
             return false;
         }
 
-        private void findShapes(Cues cues) {
+        /** Finds all shapes of rows that may be now; they stay until other rules come. */
+        void learnRules(Cues cues) {
             int rules = cues.firsts & USED_MASK;
             for (int c = 0; c < USED_CUES; c++) {
                 rules = rules << USED_CUES | (cues.followers[c] & USED_MASK);
@@ -1278,14 +1287,28 @@ public final class StagePair {
 
         private void growTrees(Cues cues) {
             for (int c = 0; c < USED_CUES; c++) {
-                sumTrees(cues.followers[c]);
-                taller[c].setTree(sum);
+                int twin = twinOf(c, cues);
+                if (twin < c) {
+                    taller[c].setLike(taller[twin]);
+                } else {
+                    sumTrees(cues.followers[c]);
+                    taller[c].setTree(sum);
+                }
             }
             for (int c = 0; c < USED_CUES; c++) {
                 Shapes low = trees[c];
                 trees[c] = taller[c];
                 taller[c] = low;
             }
+        }
+
+        /** The first cue with the same followers; what it begins is alike, and dear to find. */
+        private static int twinOf(int c, Cues cues) {
+            int twin = 0;
+            while (twin < c && ((cues.followers[twin] ^ cues.followers[c]) & USED_MASK) != 0) {
+                twin++;
+            }
+            return twin;
         }
 
         private void sumTrees(int cueBits) {
@@ -1301,10 +1324,10 @@ public final class StagePair {
         }
 
         /** The least sum in two kinds, or NONE; the kinds are kept if there is one. */
-        int part(int n, int[] likes, Cues cues) {
+        int part(int n, int[] likes) {
             int all = (1 << n) - 1;
             for (int set = 1; set < all; set++) {
-                partCosts[set] = leastCostOfSet(set, n, likes, cues);
+                partCosts[set] = leastCostOfSet(set, n, likes);
             }
             int least = NONE;
             int second = 0;
@@ -1328,7 +1351,7 @@ public final class StagePair {
             return least;
         }
 
-        private int leastCostOfSet(int set, int n, int[] likes, Cues cues) {
+        private int leastCostOfSet(int set, int n, int[] likes) {
             int size = 0;
             for (int t = 0; t < n; t++) {
                 if ((set >> (n - 1 - t) & 1) == 1) {
@@ -1336,7 +1359,7 @@ public final class StagePair {
                     size++;
                 }
             }
-            return leastCost(size, cues);
+            return leastCost(size);
         }
     }
 

@@ -1,0 +1,94 @@
+/** What the tests of single promises share: a room, texts on its tape, and answers that are due. */
+final class Bench {
+    private int promise;
+    private int wrong = 0;
+    private int checked = 0;
+    StagePair x;
+
+    /** A new room for a promise. */
+    StagePair begin(int number) {
+        promise = number;
+        x = new StagePair();
+        return x;
+    }
+
+    void due(long got, long want) {
+        checked++;
+        if (got != want) {
+            wrong++;
+            int line = StackWalker.getInstance().walk(
+                frames -> frames.skip(1).findFirst().get().getLineNumber());
+            System.out.println("promise " + promise + ", line " + line + ": answered " + got + ", due is " + want);
+        }
+    }
+
+    /** The tape has this text alone. */
+    Bench put(String text) {
+        x.end(0);
+        for (int i = 0; i < text.length(); i += 20) {
+            int[] five = new int[5];
+            for (int j = 0; j < 20; j++) {
+                int at = i + j;
+                five[j / 4] = five[j / 4] << 8 | (at < text.length() ? text.charAt(at) : 32);
+            }
+            x.feed(five[0], five[1], five[2], five[3], five[4]);
+        }
+        due(x.end(text.length()), text.length());
+        return this;
+    }
+
+    /** The words w0, w1 .. in letters: cue k is the k-th of these. */
+    void nameCues(String... words) {
+        for (int k = 0; k < words.length; k++) {
+            put(words[k]);
+            due(x.word(k), words[k].length());
+        }
+    }
+
+    /** Things with these rows (an empty one: none), their likes as told. */
+    void haveThings(String[] rows, int... likes) {
+        for (int t = 0; t < rows.length; t++) {
+            due(x.thing(likes[t]), t);
+            put(rows[t]);
+            due(x.row(t), rows[t].length());
+        }
+    }
+
+    int ask(String question) {
+        put(question);
+        return x.ask();
+    }
+
+    int tell(String night) {
+        put(night);
+        return x.night();
+    }
+
+    int mind(String manners) {
+        put(manners);
+        return x.manners();
+    }
+
+    String madeText() {
+        StringBuilder s = new StringBuilder();
+        for (int i = 0; i < 1000 && x.made(i) >= 0; i++) {
+            s.append((char) x.made(i));
+        }
+        return s.toString();
+    }
+
+    void dueText(String got, String want) {
+        checked++;
+        if (!got.equals(want)) {
+            wrong++;
+            System.out.println("promise " + promise + ": made '" + got + "', due is '" + want + "'");
+        }
+    }
+
+    void finish(String name) {
+        System.out.println(name + ": " + checked + " answers, " + wrong + " wrong");
+        if (wrong > 0) {
+            System.exit(1);
+        }
+    }
+}
