@@ -456,8 +456,9 @@ public final class AgainstPlainTest {
         String write() {
             int rules = random.nextInt(100) < 5 ? 0 : 1 + random.nextInt(5);
             String names = "ABCDEFGH";
+            boolean fromBehind = random.nextInt(3) == 0;
             for (int r = 0; r < rules; r++) {
-                int at = random.nextInt(100) < 96 ? r : random.nextInt(8);
+                int at = random.nextInt(100) < 4 ? random.nextInt(8) : fromBehind ? rules - 1 - r : r;
                 blank();
                 s.append(names.charAt(at));
                 blank();

@@ -165,6 +165,15 @@ public final class MannersTest {
         question("z", 1);
         question("", 1);
         question("y z", 0);
+        // Rules in another order than their names.
+        b.due(b.mind("C = x; B = C y; A = B [C];"), 3);
+        question("x y", 1);
+        question("x y x", 1);
+        question("x", 0);
+        b.due(b.x.questions(2), 1);
+        b.due(b.x.questions(3), 1);
+        b.put("");
+        b.due(b.x.make(), 2);
         // Rows within [ ] within [ ].
         b.due(b.mind("A = a [b [c | d [e]] | f] g;"), 1);
         question("a g", 1);

@@ -135,5 +135,6 @@ public final class RoomTest {
             b.due(b.x.mannerly(), 1);
             b.due(b.x.questions(60), StagePair.FULL);
         }
+        b.finish("RoomTest, the dearest calls");
     }
 }
