@@ -1966,7 +1966,7 @@ public final class StagePair {
 
         private long endsOfPart(int part, long from) {
             long to = 0;
-            for (int i = 0; i < PLACES; i++) {
+            for (int i = 0; i < PLACES && from >> i != 0; i++) {
                 if ((from >> i & 1) == 1) {
                     to |= ends[part * PLACES + i];
                 }

@@ -84,12 +84,29 @@ public final class AgainstPlainTest {
         if (theme[0].equals("word") || theme[0].equals("manners") || odds(20)) {
             nameCues();
         }
+        if (theme[2].equals("shortest") && odds(70)) {
+            fewCues();
+        }
         // An object is used for 512 calls; a text takes up to 22 of them.
         for (int i = 0; i < calls && log.size() < 480 && !wrong; i++) {
             step(theme[random.nextInt(theme.length)]);
         }
         for (int what = 0; what <= 10 && !wrong; what++) {
             call("count", what);
+        }
+    }
+
+    /** Two or three cues alone make ties of shortest rows. */
+    private void fewCues() throws Exception {
+        int from = 2 + random.nextInt(2);
+        for (int k = from; k < 4; k++) {
+            call("first", k, false);
+            for (int j = 0; j < 4; j++) {
+                call("may", k, j, false);
+            }
+        }
+        for (int t = 0; t < 7; t++) {
+            call("thing", 1 + random.nextInt(5));
         }
     }
 

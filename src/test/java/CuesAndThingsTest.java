@@ -23,6 +23,7 @@ public final class CuesAndThingsTest {
         t.costAndMeaning();
         t.shortest();
         t.shortestAtEdges();
+        t.shortestAlike();
         t.b.finish("CuesAndThingsTest");
     }
 
@@ -196,7 +197,9 @@ public final class CuesAndThingsTest {
         b.due(x.book(), 1);
         b.due(x.count(3), 0);
         b.due(x.digit(0), 7);
-        for (String none : new String[] {"", "7654321", "765432100", "76543211", "76543218", "7654321/", "0123456a"}) {
+        for (String none : new String[] {"", "7654321", "765432100", "76543211", "76543218", "7654321/", "0123456a",
+            // bytes that are 32 beyond a digit, or 128 or more
+            "P1234567", "0123456W", "0123456" + (char) 183, "0123456" + (char) 255}) {
             b.put(none);
             b.due(x.book(), NONE);
             b.due(x.count(3), 0);
@@ -439,6 +442,7 @@ public final class CuesAndThingsTest {
         b.due(x.row(39), 1);
         b.due(b.ask("a"), 1);
         b.due(x.heard(), 1L << 39);
+        b.due(x.about(39, 2), 2);
     }
 
     private void shortest() {
@@ -532,22 +536,44 @@ public final class CuesAndThingsTest {
         b.due(y.length(2), 1);
         b.due(y.length(3), 2);
         b.due(y.length(4), 2);
-        // With two cues alone 2 2 2 2 and 2 3 3 1 cost the same; the first is less.
-        y = b.begin(18);
-        for (int like : new int[] {1, 1, 1, 2}) {
-            y.thing(like);
+    }
+
+    /** A new room with these likes, cues that aren't first ones, and pairs (ahead, behind) that may not be. */
+    private void likesWithout(int[] likes, String notFirst, String... pairs) {
+        StagePair x = b.begin(18);
+        for (int like : likes) {
+            x.thing(like);
         }
-        y.first(2, false);
-        y.first(3, false);
-        for (int k = 2; k < 4; k++) {
-            for (int j = 0; j < 4; j++) {
-                y.may(k, j, false);
-            }
+        for (char c : notFirst.toCharArray()) {
+            x.first(c - '0', false);
         }
-        b.due(y.shortest(4), 10);
-        b.due(y.length(0), 2);
-        b.due(y.length(1), 2);
-        b.due(y.length(2), 2);
-        b.due(y.length(3), 2);
+        for (String p : pairs) {
+            x.may(p.charAt(1) - '0', p.charAt(0) - '0', false);
+        }
+    }
+
+    private void dueLengths(int cost, int... lengths) {
+        b.due(b.x.shortest(lengths.length), cost);
+        for (int t = 0; t < lengths.length; t++) {
+            b.due(b.x.length(t), lengths[t]);
+        }
+    }
+
+    private void shortestAlike() {
+        String[] twoCues = {"02", "12", "22", "32", "03", "13", "23", "33"};
+        // 2 2 2 2 and 2 3 3 1 cost the same, as do 2 2 2 2 and 1 2 3 3.
+        likesWithout(new int[] {1, 1, 1, 2}, "23", twoCues);
+        dueLengths(10, 2, 2, 2, 2);
+        likesWithout(new int[] {2, 1, 1, 1}, "23", twoCues);
+        dueLengths(10, 1, 2, 3, 3);
+        // 1 2 2 2 2 costs as much.
+        likesWithout(new int[] {5, 3, 3, 2, 1}, "2", "01", "21", "02", "12", "32", "03", "13", "33");
+        dueLengths(23, 1, 1, 2, 3, 3);
+        // 1 2 2 2 2 2 2 costs as much.
+        likesWithout(new int[] {2, 2, 2, 1, 1, 1, 1}, "3", "20", "21", "22", "32");
+        dueLengths(18, 1, 1, 2, 2, 2, 3, 3);
+        // The first call of a room needs rows of five.
+        likesWithout(new int[] {1, 1, 1, 1, 1}, "012", "31", "32", "00", "01", "02", "03");
+        dueLengths(19, 2, 3, 4, 5, 5);
     }
 }

@@ -20,6 +20,7 @@ public final class MannersTest {
         t.questionsAtEdges();
         t.make();
         t.makeFewest();
+        t.manyWords();
         t.makeAtEdges();
         t.b.finish("MannersTest");
     }
@@ -95,6 +96,10 @@ public final class MannersTest {
         fault("A = abcdefghijklm;", 1, 4);
         fault("abcdefghijklm", 1, 0);
         fault("A=x1;", 1, 3);
+        // A text that ends in a word, behind a longer one, and one as long as the tape.
+        fault("A=xxxxxxxxx", 1, 11);
+        fault("A=x", 1, 3);
+        fault("A=" + " x".repeat(100) + " ".repeat(197) + "x", 1, 400);
         // Wherever a fault is: the first one come to.
         fault("A = B A; A = ];", 3, 6);
     }
@@ -267,6 +272,10 @@ public final class MannersTest {
         b.due(x.questions(60), 1);
         b.due(b.mind("A=BBBBBB;B=CCCC;C=x x x;"), 3);
         b.due(x.questions(60), 0);
+        b.due(b.mind("A=" + "x ".repeat(60) + ";"), 1);
+        b.due(x.questions(60), 1);
+        b.due(b.mind("A=" + "x ".repeat(61) + ";"), 1);
+        b.due(x.questions(60), 0);
         b.due(b.mind("A=B[B];B=CC;C=DD;D=EE;E=FF;F=GG;G=xx xx|;"), 7);
         b.due(x.questions(0), 2);
         b.due(x.questions(2), 32 + 64);
@@ -304,6 +313,22 @@ public final class MannersTest {
         b.begin(35);
         b.nameCues("please", "now", "well", "sir");
         b.due(b.mind(manners), 1);
+    }
+
+    /** Texts of a hundred words each, one behind the other. */
+    private void manyWords() {
+        b.begin(33);
+        for (int round = 0; round < 4; round++) {
+            StringBuilder text = new StringBuilder("A=");
+            for (int i = 0; i < 100; i++) {
+                text.append((char) ('a' + (i + round) % 26)).append((char) ('b' + i / 26 + 4 * round)).append('|');
+            }
+            b.due(b.mind(text + ";"), 1);
+            b.due(b.x.questions(1), 100);
+            question("ab", round == 0 ? 1 : 0);
+            question("af", round == 1 ? 1 : 0);
+            question("yq", round == 3 ? 1 : 0);
+        }
     }
 
     private void makeFewest() {

@@ -152,6 +152,14 @@ public final class OddsAndShowsTest {
         b.due(b.ask("h"), 1);
         b.due(x.share(0), 0);
         b.due(x.share(1), 0);
+        // Nothing can be cut: 10^12 ways of 10^12, and one.
+        x = b.begin(41);
+        b.nameCues("a", "b");
+        b.haveThings(new String[] {"AAAAAA", "BBBBBB"}, 1, 1);
+        x.mistaken(1, 0, 1);
+        b.due(b.ask("a a a a a a"), 6);
+        b.due(x.share(0), 1000000000000L);
+        b.due(x.share(1), 1000000000001L);
         // Six cues and one, with great likes.
         x = b.begin(41);
         b.nameCues("a", "b");
