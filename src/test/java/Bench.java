@@ -1,24 +1,51 @@
 /** What the tests of single promises share: a room, texts on its tape, and answers that are due. */
-final class Bench {
-    private int promise;
+class Bench {
+    /** What is promised of an object holds for so many calls. */
+    private static final int MOST_CALLS = 512;
+
+    private String where = "";
     private int wrong = 0;
     private int checked = 0;
+    private int calls = 0;
     StagePair x;
 
     /** A new room for a promise. */
-    StagePair begin(int number) {
-        promise = number;
+    StagePair begin(int promise) {
+        return begin("promise " + promise);
+    }
+
+    /** A new room for what is told so if an answer is wrong. */
+    StagePair begin(String what) {
+        where = what;
+        calls = 0;
         x = new StagePair();
         return x;
     }
 
     void due(long got, long want) {
         checked++;
+        called(1);
         if (got != want) {
-            wrong++;
-            int line = StackWalker.getInstance().walk(
-                frames -> frames.skip(1).findFirst().get().getLineNumber());
-            System.out.println("promise " + promise + ", line " + line + ": answered " + got + ", due is " + want);
+            say("answered " + got + ", due is " + want);
+        }
+    }
+
+    /** Says what is wrong, with the line of the test itself, not of what helps it. */
+    void say(String fault) {
+        wrong++;
+        int line = StackWalker.getInstance().walk(frames -> frames
+            .filter(f -> !f.getClassName().equals("Bench") && !f.getClassName().equals("Edges"))
+            .filter(f -> !f.getMethodName().equals("main"))
+            .reduce((one, outer) -> outer).get().getLineNumber());
+        System.out.println(where + ", line " + line + ": " + fault);
+    }
+
+    /** Counts calls of the room: beyond the 512th a test would ask for what is free. */
+    void called(int times) {
+        boolean wasWithin = calls <= MOST_CALLS;
+        calls += times;
+        if (wasWithin && calls > MOST_CALLS) {
+            say("more than " + MOST_CALLS + " calls of one object");
         }
     }
 
@@ -32,7 +59,9 @@ final class Bench {
                 five[j / 4] = five[j / 4] << 8 | (at < text.length() ? text.charAt(at) : 32);
             }
             x.feed(five[0], five[1], five[2], five[3], five[4]);
+            called(1);
         }
+        called(1);
         due(x.end(text.length()), text.length());
         return this;
     }
@@ -71,8 +100,13 @@ final class Bench {
 
     String madeText() {
         StringBuilder s = new StringBuilder();
-        for (int i = 0; i < 1000 && x.made(i) >= 0; i++) {
-            s.append((char) x.made(i));
+        for (int i = 0; i < 1000; i++) {
+            int b = x.made(i);
+            called(1);
+            if (b < 0) {
+                break;
+            }
+            s.append((char) b);
         }
         return s.toString();
     }
@@ -80,8 +114,7 @@ final class Bench {
     void dueText(String got, String want) {
         checked++;
         if (!got.equals(want)) {
-            wrong++;
-            System.out.println("promise " + promise + ": made '" + got + "', due is '" + want + "'");
+            say("made '" + got + "', due is '" + want + "'");
         }
     }
 
