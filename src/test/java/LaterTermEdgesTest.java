@@ -118,6 +118,28 @@ public final class LaterTermEdgesTest extends Edges {
         fault("A=B;B=C;C=B;", 3, 10);
     }
 
+    private void rowsOfRules() {
+        edge("VI", "rule = NAME \"=\" row {\"|\" row}");
+        due(mind("A=x|y|z;"), 1);
+        due(x.questions(1), 3);
+        due(mind("A=" + "|".repeat(397) + ";"), 1);
+        due(x.questions(0), 398);
+        fault("A=" + "|".repeat(398), 1, 400);
+        fault("A|x;", 1, 1);
+        fault("=x;", 1, 0);
+    }
+
+    private void itemsInOrder() {
+        edge("VI", "a row: its items in order");
+        due(mind("A=x B[y]z;B=|w;"), 2);
+        for (String good : texts("x z", "x w z", "x y z", "x w y z")) {
+            isMannerly(good, 1);
+        }
+        for (String bad : texts("z x", "x y w z", "x", "z", "x w y", "w y z", "x z z", "")) {
+            isMannerly(bad, 0);
+        }
+    }
+
     private void nothingCanBeIt() {
         edge("VI", "any one of its rows (one without a rule: nothing at all can be it)");
         due(mind("A=x|y B|z[B]|[B w];"), 1);
@@ -440,6 +462,18 @@ public final class LaterTermEdgesTest extends Edges {
         due(x.likeliest(), 1);
     }
 
+    private void likeTimesChance() {
+        edge("VII", "WEIGHT of a THING for what is heard: LIKE times that CHANCE");
+        nameAllCues();
+        haveThings(texts("AB", "AC"), 9999, 1);
+        due(ask("a"), 1);
+        due(x.lost(1, 1), 0);
+        due(x.lost(2, 30), 0);
+        due(x.likeliest(), 0);
+        due(x.share(0), 9999 / 3);
+        due(x.share(1), (9999 + 30) / 3);
+    }
+
     private void weightOverAll() {
         edge("VII", "its SHARE: its WEIGHT over that of all");
         nameAllCues();
@@ -474,6 +508,22 @@ public final class LaterTermEdgesTest extends Edges {
         due(x.inTwo(4), 8);
         due(x.kind(2), 0);
         due(x.kind(3), 1);
+    }
+
+    private void oneAndHowLong() {
+        edge("VIII", "a first CUE tells the KIND, then the ROW of the THING within it: the least sum of LIKES times (1 and how long its ROW is)");
+        due(x.thing(9999), 0);
+        due(x.thing(1), 1);
+        due(x.inTwo(2), 2 * 9999 + 2);
+        due(x.thing(2), 2);
+        // One first cue: two of one kind need two cues each; the two lightest ones.
+        for (int k = 1; k < 4; k++) {
+            due(x.first(k, false), 1);
+        }
+        due(x.inTwo(3), 2 * 9999 + 3 * 1 + 3 * 2);
+        due(x.kind(0), 0);
+        due(x.kind(1), 1);
+        due(x.kind(2), 1);
     }
 
     private void rowsOfKinds() {
@@ -651,6 +701,38 @@ public final class LaterTermEdgesTest extends Edges {
         due(x.shown(1, 2, 1), 0);
         due(x.shown(2, 2, 1), 1);
         due(x.tally(2, 2), 1);
+    }
+
+    private void cuesThatWereHeard() {
+        edge("X", "a THING that was held up, and the CUES that were heard (those of the latest ask())");
+        nameAllCues();
+        haveThings(texts("A", "B"), 1, 1);
+        due(x.turnOf(0), STATE);
+        due(ask("a"), 1);
+        due(ask("\t"), NONE);
+        due(x.turnOf(1), 0);
+        due(x.shown(0, 0, 0), 1);
+        due(x.shown(0, 0, 1), 0);
+        due(ask("b"), 1);
+        due(x.turnOf(1), 1);
+        due(x.shown(1, 1, 1), 1);
+        due(x.shown(0, 1, 1), 0);
+    }
+
+    private void putRightWithTheSame() {
+        edge("X", "PUT RIGHT: it was another THING that was held up");
+        nameAllCues();
+        haveThings(texts("A", "B"), 1, 1);
+        due(ask("a"), 1);
+        due(x.turnOf(1), 0);
+        due(x.putRight(0, 0), 1);
+        due(x.shown(0, 0, 0), 1);
+        due(x.shown(0, 1, 0), 0);
+        // Once more with what is known: a step, too, that changes nothing.
+        due(x.putRight(0, 0), 2);
+        due(x.shown(0, 2, 0), 0);
+        due(x.tally(2, 0), 1);
+        due(x.tally(2, 10), 1);
     }
 
     private void stepsAtMost() {

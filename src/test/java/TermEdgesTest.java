@@ -15,6 +15,21 @@ public final class TermEdgesTest extends Edges {
         due(x.about(1, 0), 9999);
     }
 
+    private void constants() {
+        edge("The constants", "`NONE = -1`");
+        due(StagePair.NONE, -1);
+        due(StagePair.RANGE, -2);
+        due(StagePair.FULL, -3);
+        due(StagePair.STATE, -4);
+        // There is none; a number that can't be; no room; not as things are.
+        due(x.end(1), -1);
+        due(x.digit(8), -2);
+        put("a".repeat(400));
+        due(x.feed(0, 0, 0, 0, 0), -3);
+        due(x.thing(1), 0);
+        due(x.turnOf(0), -4);
+    }
+
     // ---- I
 
     private void wordsOfCues() {
@@ -195,6 +210,19 @@ public final class TermEdgesTest extends Edges {
         due(giveRow(1, "ABCDEE"), 6);
         due(giveRow(0, ""), 0);
         due(giveRow(1, "A"), 1);
+    }
+
+    private void firstWrong() {
+        edge("II", "What is WRONG with a ROW for a THING, the first such");
+        haveThings(texts("", "AB", "CDE"), 1, 1, 1);
+        due(giveRow(0, "AB"), -12);
+        due(giveRow(0, "CD"), -13);
+        due(x.first(0, false), 1);
+        due(x.may(3, 2, false), 1);
+        due(giveRow(0, "AB"), -11);
+        due(giveRow(0, "CD"), -11);
+        due(giveRow(0, "C"), -13);
+        dueRow(0, "");
     }
 
     private void costWithoutRows() {
@@ -392,6 +420,20 @@ public final class TermEdgesTest extends Edges {
         due(tell("G 6"), FULL);
         due(x.count(1), 40);
         due(x.fits(), 2);
+    }
+
+    private void allCuesOfAllNights() {
+        edge("IV", "FIT: a BOOK fits the NIGHTS, if all CUES of all of them have the DIGITS told");
+        due(x.fits(), 40320);
+        due(tell("AH 07"), 0);
+        due(x.fits(), 720);
+        due(tell("BCDEFG 654321"), 1);
+        due(x.fits(), 1);
+        due(x.sure(1), 6);
+        due(tell("A 0"), 2);
+        due(x.fits(), 1);
+        due(tell("H 6"), 3);
+        due(x.fits(), 0);
     }
 
     private void misheardInAll() {
