@@ -46,6 +46,58 @@ public final class MannersEdgesTest extends Edges {
         }
     }
 
+    /** So many words of two letters, from the n-th one on. */
+    private static String wordsFrom(int n, int many) {
+        StringBuilder s = new StringBuilder();
+        for (int i = n; i < n + many; i++) {
+            s.append((char) ('a' + i / 26)).append((char) ('a' + i % 26)).append('|');
+        }
+        return s.toString();
+    }
+
+    private void eachTextAnew() {
+        edge("31", "THE TAPE (read, and empty then) is the MANNERS: how many rules");
+        // As many words, unlike all, as one text can have; time and again, other ones.
+        for (int round = 0; round < 6; round++) {
+            due(mind("A=" + wordsFrom(90 * round, 120) + ";"), 1);
+            due(x.questions(1), 120);
+            due(x.questions(0), 1);
+            put(wordsFrom(90 * round, 1));
+            due(x.mannerly(), 1);
+            put(wordsFrom(90 * round + 119, 1));
+            due(x.mannerly(), 1);
+            put(wordsFrom(90 * round + 120, 1));
+            due(x.mannerly(), 0);
+            put(wordsFrom((90 * round + 450) % 540, 1));
+            due(x.mannerly(), 0);
+        }
+    }
+
+    private void noRuleAnyMore() {
+        edge("31", "THE TAPE (read, and empty then) is the MANNERS: how many rules");
+        nameCues("x");
+        due(mind("A=BC|BD;B=x;C=y;D=[z];"), 4);
+        isMannerly("x y", 1);
+        isMannerly("x", 1);
+        due(x.questions(1), 1);
+        due(makeOf("A"), 1);
+        // The rules of an earlier text are none of this one.
+        due(mind("A=BC|BD|w;C=y;D=[z];"), 3);
+        isMannerly("x y", 0);
+        isMannerly("x", 0);
+        isMannerly("y", 0);
+        isMannerly("w", 1);
+        due(x.questions(1), 1);
+        due(x.questions(2), 0);
+        due(makeOf("A"), FULL);
+        due(makeOf(""), 1);
+        due(mind("B=x;C=y;D=z;"), 3);
+        isMannerly("x y", 0);
+        due(x.questions(1), 0);
+        due(makeOf("A"), FULL);
+        due(makeOf(""), FULL);
+    }
+
     // ---- 32: fault
 
     private void kindsOfFaults() {
@@ -150,6 +202,37 @@ public final class MannersEdgesTest extends Edges {
         }
     }
 
+    private void fourOpen() {
+        edge("33", "1 if the WORDS of THE TAPE (read, and empty then; as of a QUESTION) are a MANNERLY question, else 0");
+        due(mind("A=a[b[c[d[e]|f]g]|h]i;"), 1);
+        for (String good : texts("a i", "a h i", "a b i", "a b c g i", "a b c f g i", "a b c d g i", "a b c d e g i")) {
+            isMannerly(good, 1);
+        }
+        for (String bad : texts("a", "i", "a b h i", "a b c i", "a b c d f g i", "a b c e g i", "a b d g i",
+            "a b c d e f g i", "a b c d e g", "a h h i", "a d i", "a e i")) {
+            isMannerly(bad, 0);
+        }
+        due(x.questions(2), 1);
+        due(x.questions(3), 2);
+        due(x.questions(5), 1);
+        due(x.questions(6), 2);
+        due(x.questions(7), 1);
+        for (int n : ints(0, 1, 4, 8, 60)) {
+            due(x.questions(n), 0);
+        }
+    }
+
+    private void partsAtManyPlaces() {
+        edge("33", "1 if the WORDS of THE TAPE (read, and empty then; as of a QUESTION) are a MANNERLY question, else 0");
+        // A part that can begin at each of some words, and end at others.
+        due(mind("A=[x][x]B[y]C;B=x|x x;C=|y y;"), 3);
+        for (int xs = 0; xs <= 5; xs++) {
+            for (int ys = 0; ys <= 4; ys++) {
+                isMannerly("x ".repeat(xs) + "y ".repeat(ys), xs >= 1 && xs <= 4 && ys <= 3 ? 1 : 0);
+            }
+        }
+    }
+
     private void noTextYet() {
         edge("33", "NONE: another byte, or more than 60 WORDS");
         isMannerly("x ".repeat(61), NONE);
@@ -220,6 +303,23 @@ public final class MannersEdgesTest extends Edges {
         due(x.questions(0), 65536);
     }
 
+    private void waysOfWordsBeyond() {
+        edge("34", "at most 1000000000000, FULL beyond");
+        // 4 to the power of 16 by itself: 2 to the power of 64.
+        due(mind("A=BB;B=DDDD;D=HHHH;H=x|x|x|x;"), 4);
+        due(x.questions(32), FULL);
+        due(x.questions(31), 0);
+        due(mind("A=BB|BBB;B=DDDD;D=HHHH;H=x|x|x|x;"), 4);
+        due(x.questions(48), FULL);
+        due(x.questions(32), FULL);
+        due(x.questions(16), 0);
+        // 2 to the power of 39 is told, 2 to the power of 40 is not.
+        due(mind("A=BBB;B=DDDDDDDDDDDDD;D=x|x;"), 3);
+        due(x.questions(39), 549755813888L);
+        due(mind("A=BBBD;B=DDDDDDDDDDDDD;D=x|x;"), 3);
+        due(x.questions(40), FULL);
+    }
+
     private void noSuchNumberOfWords() {
         edge("34", "RANGE");
         for (int n : ints(-1, 61, LOW, HIGH)) {
@@ -254,6 +354,58 @@ public final class MannersEdgesTest extends Edges {
         due(mind("A=BBBBBB[y];B=a|h;"), 2);
         due(makeOf("AAAAAH"), 6);
         dueText(madeText(), "a a a a a h");
+    }
+
+    private void partsOfWholeRow() {
+        edge("35", "A question is MADE of THE TAPE's row (a byte a CUE, its number and 65; 0 .. 6 of them; read, and empty then): how many WORDS");
+        nameCues("a", "b", "c", "d", "e", "f");
+        String[] all = texts("a ", "b ", "c ", "d ", "e ", "f ");
+        for (int cut = 0; cut <= 6; cut++) {
+            String one = "";
+            String other = "";
+            for (int i = 0; i < 6; i++) {
+                one += i < cut ? all[i] : "";
+                other += i < cut ? "" : all[i];
+            }
+            for (String parts : texts("BC;B=1;C=2;", "CB;C=1;B=2;", "GH;G=1;H=2;", "HG;H=1;G=2;", "DG;D=1;G=2;")) {
+                due(mind("A=" + parts.replace("1", one).replace("2", other)), 3);
+                due(makeOf("ABCDEF"), 6);
+                dueText(madeText(), "a b c d e f");
+            }
+            // Each call is counted.
+            begin("promise 35 (parts of a whole row)");
+            nameCues("a", "b", "c", "d", "e", "f");
+        }
+        due(mind("A=BCDEFGH;B=a;C=b;D=c;E=d;F=e;G=f;H=|z;"), 8);
+        due(makeOf("ABCDEF"), 6);
+        dueText(madeText(), "a b c d e f");
+        due(makeOf("ABCDE"), FULL);
+        due(mind("A=HBCDEFGH;B=a;C=b;D=c;E=d;F=e;G=f;H=z;"), 8);
+        due(makeOf("ABCDEF"), 8);
+        dueText(madeText(), "z a b c d e f z");
+    }
+
+    private void madeOfFourOpen() {
+        edge("35", "A question is MADE of THE TAPE's row (a byte a CUE, its number and 65; 0 .. 6 of them; read, and empty then): how many WORDS");
+        nameCues("a", "b", "c", "d", "e", "f");
+        due(mind("A=a[b[c[d[e]|z]y]|f]x;"), 1);
+        String[] rows = {"A", "AB", "ABC", "ABCD", "ABCDE", "AF"};
+        String[] due = {"a x", "a b x", "a b c y x", "a b c d y x", "a b c d e y x", "a f x"};
+        for (int i = 0; i < rows.length; i++) {
+            due(makeOf(rows[i]), (due[i].length() + 1) / 2);
+            dueText(madeText(), due[i]);
+        }
+        for (String none : texts("", "B", "ABD", "ACD", "ABCE", "ABCDEF", "ABF", "F")) {
+            due(makeOf(none), FULL);
+        }
+        // With a part at each level.
+        due(mind("A=[B[B[B[B]]]];B=a|b z;"), 2);
+        due(makeOf("AAAA"), 4);
+        due(makeOf("ABAB"), 6);
+        dueText(madeText(), "a b z a b z");
+        due(makeOf("BB"), 4);
+        due(makeOf(""), 0);
+        due(makeOf("AAAAA"), FULL);
     }
 
     private void noRowToMake() {
@@ -303,6 +455,19 @@ public final class MannersEdgesTest extends Edges {
         due(makeOf(""), 60);
         due(mind("A=BBBBBD;B=CCCC;C=x x x;D=y;"), 4);
         due(makeOf(""), FULL);
+    }
+
+    private void sixtyByTwoWays() {
+        edge("35", "FULL: none can be MADE");
+        nameCues("a");
+        // Two cuts of the row give the same sixty words.
+        due(mind("A=BC;B=" + "x ".repeat(29) + "[a];C=[a]" + "x ".repeat(30) + ";"), 3);
+        due(makeOf("A"), 60);
+        due(x.made(58), 'a');
+        due(x.made(118), 'x');
+        due(x.made(119), NONE);
+        due(makeOf(""), 59);
+        due(makeOf("AA"), FULL);
     }
 
     private void bytesMade() {

@@ -117,6 +117,18 @@ public final class OddsEdgesTest extends Edges {
         due(x.chance(1), 0);
     }
 
+    private void chanceBehindTheFortieth() {
+        edge("39", "0 without a ROW, a THING, an ask()");
+        nameAllCues();
+        addThings(40, 1);
+        due(giveRow(39, "A"), 1);
+        due(ask("a"), 1);
+        due(x.chance(39), 100);
+        for (int t : ints(-1, 38, 40, 41, LOW, HIGH)) {
+            due(x.chance(t), 0);
+        }
+    }
+
     // ---- 40, 41: likeliest, share
 
     private void likeliestOfAlike() {
@@ -393,6 +405,28 @@ public final class OddsEdgesTest extends Edges {
         due(tell("G 0"), 0);
         due(x.fewest(), 1);
         due(x.few(), 1);
+    }
+
+    private void fewerFoundLater() {
+        edge("45", "FEWEST: how many");
+        haveThings(texts("AB", "CD", "EFG"), 1, 1, 1);
+        due(x.fewest(), 3);
+        due(x.few(), 7);
+        due(x.thing(1), 3);
+        due(giveRow(3, "BACD"), 4);
+        due(x.fewest(), 2);
+        due(x.few(), 1 << 2 | 1 << 3);
+        // All eight cues by 3 and 4 are no better than seven by 2 and 3.
+        due(x.thing(1), 4);
+        due(giveRow(4, "GEFH"), 4);
+        due(x.fewest(), 2);
+        due(x.few(), 1 << 2 | 1 << 3);
+        due(giveRow(2, ""), 0);
+        due(x.fewest(), 2);
+        due(x.few(), 1 << 3 | 1 << 4);
+        due(giveRow(3, ""), 0);
+        due(x.fewest(), 3);
+        due(x.few(), 1 | 1 << 1 | 1 << 4);
     }
 
     private void fewestOfForty() {

@@ -156,6 +156,23 @@ public final class SpyAndNameEdgesTest extends Edges {
         dueBook("01234567");
     }
 
+    private void renewedToNothing() {
+        edge("24", "A NEW BOOK is found and taken: how many CUES have another DIGIT");
+        // The last cue has the digit 0, and keeps it as long as nobody is sure of it.
+        due(take("12345670"), 1);
+        due(x.renew(), 0);
+        dueBook("12345670");
+        due(tell("A 0"), 0);
+        due(x.renew(), 0);
+        dueBook("12345670");
+        due(tell("B 2"), 1);
+        due(x.renew(), 2);
+        dueBook("10345672");
+        due(take("76543210"), 1);
+        due(x.renew(), 0);
+        dueBook("76543210");
+    }
+
     private void leastRenewed() {
         edge("24", "A NEW BOOK is found and taken: how many CUES have another DIGIT");
         // One is sure: the cue changes with the one that makes the least row.

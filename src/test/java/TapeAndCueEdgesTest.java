@@ -113,6 +113,65 @@ public final class TapeAndCueEdgesTest extends Edges {
         dueEmptyTape();
     }
 
+    /** The tape is this text, of which the first bytes alone are kept: the others stand behind its end. */
+    private void putAndCut(String text, int kept) {
+        put(text);
+        due(x.end(kept), kept);
+    }
+
+    private void bytesBehindTheEnd() {
+        edge("3", "THE TAPE has its first n bytes alone: n");
+        putAndCut("ab", 1);
+        due(x.word(0), 1);
+        dueWord(0, "a");
+        putAndCut("10234567", 7);
+        due(x.book(), NONE);
+        due(x.thing(1), 0);
+        putAndCut("AB", 1);
+        due(x.row(0), 1);
+        putAndCut("A", 0);
+        due(x.row(0), 0);
+        for (int kept : ints(4, 3, 2, 1, 0)) {
+            putAndCut("AB 01", kept);
+            due(x.night(), NONE);
+        }
+        putAndCut("ab", 1);
+        due(x.ask(), 1);
+        putAndCut("a\t", 1);
+        due(x.ask(), 1);
+        putAndCut("ab", 1);
+        due(x.spell(), 2);
+        putAndCut("ab", 0);
+        due(x.spell(), NONE);
+        putAndCut("a1", 1);
+        due(x.list(), 0);
+        putAndCut("10234567", 7);
+        due(x.bookOn(0, 0), NONE);
+        putAndCut("01234567", 8);
+        due(x.bookOn(0, 0), 1);
+    }
+
+    private void mannersBehindTheEnd() {
+        edge("3", "THE TAPE has its first n bytes alone: n");
+        nameCues("a");
+        putAndCut("A=a;", 3);
+        due(x.manners(), NONE);
+        due(x.fault(1), 3);
+        putAndCut("A=ab;", 3);
+        due(x.manners(), NONE);
+        due(x.fault(1), 3);
+        putAndCut("A=a;?", 4);
+        due(x.manners(), 1);
+        putAndCut("ab", 1);
+        due(x.mannerly(), 1);
+        putAndCut("a a", 2);
+        due(x.mannerly(), 1);
+        putAndCut("AA", 1);
+        due(x.make(), 1);
+        putAndCut("A", 0);
+        due(x.make(), FULL);
+    }
+
     private void notSoManyBytes() {
         edge("3", "NONE when it has not so many, or n is below 0");
         due(x.end(1), NONE);

@@ -265,6 +265,36 @@ public final class TermEdgesTest extends Edges {
         due(x.shortest(6), NONE);
     }
 
+    /** Behind a cue this one alone may stand. */
+    private void onlyBehind(int ahead, int behind) {
+        for (int k = 0; k < 4; k++) {
+            due(x.may(k, ahead, k == behind), k == behind ? 0 : 1);
+        }
+    }
+
+    private void sevenBehindOneCue() {
+        edge("II", "for the first 1 .. 7 THINGS, with CUES 0 .. 3 alone and ROWS of at most 5");
+        addThings(6, 1);
+        due(x.thing(9999), 6);
+        for (int k = 1; k < 4; k++) {
+            due(x.first(k, false), 1);
+        }
+        // All seven begin with cue 0: three of two cues, four of three, the heaviest first.
+        due(x.shortest(7), 2 * 9999 + 2 * 2 + 4 * 3);
+        for (int t = 0; t < 7; t++) {
+            due(x.length(t), t < 2 || t == 6 ? 2 : 3);
+        }
+        due(x.shortest(6), 2 * 3 + 3 * 3);
+        // With cues that come first alone, the longer by one each; four are the most of five cues.
+        for (int k = 0; k < 3; k++) {
+            onlyBehind(k, k + 1);
+            due(x.shortest(1), 1);
+            due(x.shortest(4), 4 * (k + 3));
+            due(x.shortest(5), k < 2 ? 3 * (k + 3) + 2 * (k + 4) : NONE);
+            due(x.shortest(7), k < 2 ? (k + 3) * 9999 + 2 * (k + 3) + 4 * (k + 4) : NONE);
+        }
+    }
+
     private void otherRowsAside() {
         edge("II", "(Other THINGS' ROWS aside.)");
         haveThings(texts("A", "B", "C", "D", "HAAAAA"), 5, 5, 5, 5, 5);
