@@ -59,7 +59,7 @@ public final class MannersEdgesTest extends Edges {
         edge("31", "THE TAPE (read, and empty then) is the MANNERS: how many rules");
         // As many words, unlike all, as one text can have; time and again, other ones.
         for (int round = 0; round < 6; round++) {
-            due(mind("A=" + wordsFrom(90 * round, 120) + ";"), 1);
+            due(mind(" ".repeat(7 * round) + "A=" + wordsFrom(90 * round, 120) + ";"), 1);
             due(x.questions(1), 120);
             due(x.questions(0), 1);
             put(wordsFrom(90 * round, 1));
@@ -261,6 +261,12 @@ public final class MannersEdgesTest extends Edges {
         due(mind("A=" + "x ".repeat(60) + ";"), 1);
         due(x.questions(60), 1);
         due(x.questions(59), 0);
+        // Nothing at four levels, or one of what a part within all of them stands for.
+        due(mind("A=[[[[B]]]];B=x|x y;"), 2);
+        due(x.questions(0), 4);
+        due(x.questions(1), 1);
+        due(x.questions(2), 1);
+        due(x.questions(3), 0);
         due(mind("A=" + "x ".repeat(60) + "[x];"), 1);
         due(x.questions(60), 1);
         due(mind("A=x " + "x ".repeat(60) + ";"), 1);
@@ -313,6 +319,12 @@ public final class MannersEdgesTest extends Edges {
         due(x.questions(48), FULL);
         due(x.questions(32), FULL);
         due(x.questions(16), 0);
+        // 2 to the power of 27 times 2 to the power of 37, and the other way round.
+        for (String both : texts("BC", "CB")) {
+            due(mind("A=" + both + ";B=" + "H".repeat(13) + "D;C=" + "H".repeat(18) + "D;D=x|x;H=x|x|x|x;"), 5);
+            due(x.questions(33), FULL);
+            due(x.questions(32), 0);
+        }
         // 2 to the power of 39 is told, 2 to the power of 40 is not.
         due(mind("A=BBB;B=DDDDDDDDDDDDD;D=x|x;"), 3);
         due(x.questions(39), 549755813888L);

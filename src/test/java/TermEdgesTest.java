@@ -295,6 +295,26 @@ public final class TermEdgesTest extends Edges {
         }
     }
 
+    private void oneRuleAgainst() {
+        edge("II", "ROWS with nothing WRONG among them, with the least COST");
+        addThings(4, 1);
+        for (int k = 0; k < 4; k++) {
+            due(x.first(k, false), 1);
+        }
+        for (int ahead = 0; ahead < 4; ahead++) {
+            due(x.first(ahead, true), 1);
+            due(x.shortest(4), 4 * 2);
+            for (int k = 0; k < 4; k++) {
+                // Three stand behind it: two rows of two cues, two of three.
+                due(x.may(k, ahead, false), 1);
+                due(x.shortest(4), 2 * 2 + 2 * 3);
+                due(x.may(k, ahead, true), 1);
+            }
+            due(x.first(ahead, false), 1);
+        }
+        due(x.shortest(4), NONE);
+    }
+
     private void otherRowsAside() {
         edge("II", "(Other THINGS' ROWS aside.)");
         haveThings(texts("A", "B", "C", "D", "HAAAAA"), 5, 5, 5, 5, 5);
