@@ -52,6 +52,23 @@ public final class TapeAndCueEdgesTest extends Edges {
             due(x.end(keep), keep);
             due(x.ask(), NONE);
         }
+        // At each of the five places, and none of these is a byte of a question or a row.
+        x.end(0);
+        for (int v : ints(LOW, HIGH, -1, 0)) {
+            for (int at = 0; at < 5; at++) {
+                int[] five = ints(0x41414141, 0x41414141, 0x41414141, 0x41414141, 0x41414141);
+                five[at] = v;
+                due(x.feed(five[0], five[1], five[2], five[3], five[4]), 20);
+                due(x.end(4 * at + 1), 4 * at + 1);
+                due(x.ask(), NONE);
+            }
+        }
+        due(x.thing(1), 0);
+        for (int v : ints(LOW, HIGH, -1, 0)) {
+            due(x.feed(v, 0, 0, 0, 0), 20);
+            due(x.end(1), 1);
+            due(x.row(0), NONE);
+        }
         // 127 of the highest int ends a row of letters; ahead of it they are one word.
         due(x.feed(0x6162637f, HIGH, HIGH, HIGH, HIGH), 20);
         due(x.end(3), 3);
