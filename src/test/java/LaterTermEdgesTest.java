@@ -82,6 +82,27 @@ public final class LaterTermEdgesTest extends Edges {
         due(x.questions(1), 1);
     }
 
+    private void items() {
+        edge("VI", "item = WORD | NAME | \"[\" row {\"|\" row} \"]\"");
+        due(mind("A=w;"), 1);
+        due(mind("A=B;"), 1);
+        due(mind("A=[];"), 1);
+        due(mind("A=[w|B|[w]|];B=v;"), 2);
+        for (String good : texts("", "w", "v")) {
+            isMannerly(good, 1);
+        }
+        due(x.questions(0), 3);
+        due(x.questions(1), 3);
+        // A [ holds rows, no rule; each sign has its partner, and none stands in another's place.
+        fault("A=[w", 1, 4);
+        fault("A=[w;", 1, 4);
+        fault("A=w];", 1, 3);
+        fault("A=[w]];", 1, 5);
+        fault("A=[B=w];", 1, 4);
+        fault("A=[[w|];", 1, 7);
+        fault("[A]=w;", 1, 0);
+    }
+
     private void noText() {
         edge("VI", "text = {rule \";\"}");
         due(mind(""), 0);
@@ -127,6 +148,19 @@ public final class LaterTermEdgesTest extends Edges {
         fault("A=" + "|".repeat(398), 1, 400);
         fault("A|x;", 1, 1);
         fault("=x;", 1, 0);
+    }
+
+    private void wordsStandForThemselves() {
+        edge("VI", "a WORD: itself");
+        nameCues("tell");
+        due(mind("A=tell;"), 1);
+        isMannerly("tell", 1);
+        isMannerly("TELL!", 1);
+        for (String bad : texts("", "tel", "tells", "ell", "tell tell", "a", "w")) {
+            isMannerly(bad, 0);
+        }
+        due(makeOf("A"), 1);
+        dueText(madeText(), "tell");
     }
 
     private void itemsInOrder() {
@@ -441,6 +475,29 @@ public final class LaterTermEdgesTest extends Edges {
         due(x.chance(0), 2 * 10 * 90 + 10 * 10 * 5);
         due(ask(""), 0);
         due(x.chance(0), 10 * 10);
+    }
+
+    private void overThePowerOfItsOwnCues() {
+        edge("VII", "over 100 to the power of how many CUES it has");
+        nameAllCues();
+        haveThings(texts("A", "BB"), 1, 1);
+        due(x.lost(0, 10), 0);
+        due(x.lost(1, 10), 0);
+        due(ask("b"), 1);
+        // 2 times 10 times 90, over 10000: what is heard has one cue, the row has two.
+        due(x.chance(1), 1800);
+        due(x.mistaken(0, 1, 5), 0);
+        due(x.chance(0), 5);
+        // 5 over 100 is less than 1800 over 10000,
+        due(x.likeliest(), 1);
+        due(x.share(0), 18);
+        due(x.share(1), 23);
+        // but more than 2 times 2 times 98 over 10000, though 5 is less than 392.
+        due(x.lost(1, 2), 10);
+        due(x.chance(1), 392);
+        due(x.likeliest(), 0);
+        due(x.share(0), 125);
+        due(x.share(1), 223);
     }
 
     private void greatestWeight() {

@@ -324,6 +324,25 @@ public final class TermEdgesTest extends Edges {
         dueRow(4, "HAAAAA");
     }
 
+    private void leastCostAndLengths() {
+        edge("II", "It tells the least COST, and how long each ROW is");
+        for (int like : ints(9999, 1, 9999, 1, 9999, 1, 9999)) {
+            x.thing(like);
+            called(1);
+        }
+        // Four rows of one cue for four; of a fifth thing on, one of these has to be longer.
+        due(x.shortest(4), 20000);
+        due(x.shortest(5), 3 * 9999 + 2 * 2);
+        for (int t = 0; t < 5; t++) {
+            due(x.length(t), t % 2 == 0 ? 1 : 2);
+        }
+        due(x.shortest(7), 3 * 9999 + 2 * 9999 + 3 * 2);
+        for (int t = 0; t < 6; t++) {
+            due(x.length(t), t % 2 == 0 ? 1 : 2);
+        }
+        due(x.length(6), 2);
+    }
+
     private void leastRowOfLengths() {
         edge("II", "of all that have it that with the least row of lengths (by THING)");
         // Two cues alone.
